@@ -1,0 +1,45 @@
+/** Counts what a test finds, and tells every answer that is not the one that is due. */
+final class Check {
+    interface Call {
+        Object answer();
+    }
+
+    private static int right = 0;
+    private static int wrong = 0;
+
+    private Check() {
+    }
+
+    /** The answer of a call as a text: its value, or throws. and the exact class thrown. */
+    static String told(Call call) {
+        try {
+            return String.valueOf(call.answer());
+        } catch (RuntimeException e) {
+            return "throws." + e.getClass().getSimpleName();
+        }
+    }
+
+    static void due(String what, Call call, Object want) {
+        compare(what, told(call), String.valueOf(want));
+    }
+
+    static void refused(String what, Call call, Class<? extends RuntimeException> kind) {
+        compare(what, told(call), "throws." + kind.getSimpleName());
+    }
+
+    static void compare(String what, String got, String want) {
+        if (got.equals(want)) {
+            right++;
+        } else {
+            wrong++;
+            System.out.println(what + " answered " + got + ", due is " + want);
+        }
+    }
+
+    static void end() {
+        System.out.println(right + " answers right, " + wrong + " wrong");
+        if (wrong != 0 || right == 0) {
+            System.exit(1);
+        }
+    }
+}
