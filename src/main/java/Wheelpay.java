@@ -521,7 +521,6 @@ public final class Wheelpay {
                     charges[rider] += ABSENCE_FEE;
                 }
             }
-            booked = 0;
             seated = 0;
             finished = true;
         }

@@ -32,6 +32,7 @@ public final class PromisesTest {
         promise14Settle();
         promise15OpenDisputes();
         promise16CloseWeek();
+        promise16UnderWay();
         promise17Week();
         promise18Earnings();
         promise19TopUp();
@@ -539,6 +540,19 @@ public final class PromisesTest {
         finished(x, 0, 50, 1, 0);
         Check.due("16: rides in week 20", () -> x.earnings(0, 20), 4016);
         Check.due("16: never closed", () -> x.balance(0), 0);
+    }
+
+    private static void promise16UnderWay() {
+        Wheelpay x = new Wheelpay();
+        x.start(0);
+        Check.refused("16: ride 0 alone is under way", x::closeWeek, STATE);
+        x.finish(0);
+        Check.due("16: it is finished", x::closeWeek, 0);
+        emptyRides(x, 0, 3);
+        x.start(1);
+        Check.refused("16: the newest ride is under way", x::closeWeek, STATE);
+        x.finish(4);
+        Check.due("16: the bonus", x::closeWeek, 1000);
     }
 
     private static void promise17Week() {
