@@ -23,8 +23,17 @@ final class Check {
         compare(what, told(call), String.valueOf(want));
     }
 
+    /** The exception must come from a throw of the class itself, not from the library that it uses. */
     static void refused(String what, Call call, Class<? extends RuntimeException> kind) {
-        compare(what, told(call), "throws." + kind.getSimpleName());
+        String got;
+        try {
+            got = String.valueOf(call.answer());
+        } catch (RuntimeException e) {
+            StackTraceElement[] frames = e.getStackTrace();
+            String place = frames.length == 0 ? "nowhere" : frames[0].getClassName();
+            got = e.getClass().getSimpleName() + " by " + place;
+        }
+        compare(what, got, kind.getSimpleName() + " by Wheelpay");
     }
 
     static void compare(String what, String got, String want) {
