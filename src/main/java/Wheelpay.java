@@ -207,7 +207,7 @@ public final class Wheelpay {
     public int topUp(int driver, int week) throws IndexOutOfBoundsException, IllegalArgumentException {
         checkDriver(driver);
         checkRange(week, 0, presentWeek);
-        return topUpFor(driver, week);
+        return topUpOn(earningsFor(driver, week), driver, week);
     }
 
     public int bonus(int driver, int week) throws IndexOutOfBoundsException, IllegalArgumentException {
@@ -299,8 +299,8 @@ public final class Wheelpay {
         return FLOOR_BY_HOUR * minutes / MINUTES_OF_HOUR;
     }
 
-    private int topUpFor(int driver, int week) {
-        return Math.max(floorFor(driver, week) - earningsFor(driver, week), 0);
+    private int topUpOn(int earned, int driver, int week) {
+        return Math.max(floorFor(driver, week) - earned, 0);
     }
 
     private int bonusFor(int driver, int week) {
@@ -325,7 +325,8 @@ public final class Wheelpay {
     }
 
     private int payFor(int driver, int week) {
-        return earningsFor(driver, week) + topUpFor(driver, week) + bonusFor(driver, week);
+        int earned = earningsFor(driver, week);
+        return earned + topUpOn(earned, driver, week) + bonusFor(driver, week);
     }
 
     private int payBefore(int driver, int endWeek) {

@@ -6,6 +6,7 @@ final class Check {
 
     private static int right = 0;
     private static int wrong = 0;
+    private static String sentence = "";
 
     private Check() {
     }
@@ -36,12 +37,28 @@ final class Check {
         compare(what, got, kind.getSimpleName() + " by Wheelpay");
     }
 
+    /** The test of one sentence of the document: what it finds is told with the sentence. */
+    static void sentence(String text, Runnable test) {
+        int before = right + wrong;
+        sentence = text;
+        try {
+            test.run();
+        } catch (RuntimeException e) {
+            compare("the test", "throws." + e.getClass().getSimpleName(), "to its end");
+        }
+        if (right + wrong == before) {
+            compare("the test", "nothing compared", "something");
+        }
+        sentence = "";
+    }
+
     static void compare(String what, String got, String want) {
         if (got.equals(want)) {
             right++;
         } else {
             wrong++;
-            System.out.println(what + " answered " + got + ", due is " + want);
+            String place = sentence.isEmpty() ? "" : "[" + sentence + "] ";
+            System.out.println(place + what + " answered " + got + ", due is " + want);
         }
     }
 

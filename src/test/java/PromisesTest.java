@@ -1,15 +1,11 @@
 /** Each promise of the document: ordinary inputs, the edges that it names, and wrong inputs. */
 public final class PromisesTest {
-    private static final Class<IndexOutOfBoundsException> OUT = IndexOutOfBoundsException.class;
-    private static final Class<IllegalArgumentException> ARGUMENT = IllegalArgumentException.class;
-    private static final Class<IllegalStateException> STATE = IllegalStateException.class;
+    private static final Class<IndexOutOfBoundsException> OUT = Given.OUT;
+    private static final Class<IllegalArgumentException> ARGUMENT = Given.ARGUMENT;
+    private static final Class<IllegalStateException> STATE = Given.STATE;
 
-    private static final int LOW = Integer.MIN_VALUE;
-    private static final int HIGH = Integer.MAX_VALUE;
-    private static final int[] NO_RIDERS = {-1, 10, 32, LOW, HIGH};
-    private static final int[] NO_DRIVERS = {-1, 5, 32, LOW, HIGH};
-    /** Rides that do not exist where exactly one ride was started. */
-    private static final int[] NO_RIDES = {-1, 1, 39, 40, LOW, HIGH};
+    private static final int LOW = Given.LOW;
+    private static final int HIGH = Given.HIGH;
 
     private PromisesTest() {
     }
@@ -48,43 +44,8 @@ public final class PromisesTest {
         Check.end();
     }
 
-    // ---- purses that the promises start from
-
     private static String rates(int byKilometre, int byMinute) {
         return "setRates(" + byKilometre + ", " + byMinute + ")";
-    }
-
-    private static Object setRates(Wheelpay x, int byKilometre, int byMinute) {
-        x.setRates(byKilometre, byMinute);
-        return "set";
-    }
-
-    /** A ride of the driver with the riders aboard, driven once. */
-    private static int driven(Wheelpay x, int driver, int kilometres, int minutes, int... riders) {
-        int ride = x.start(driver);
-        for (int rider : riders) {
-            x.board(ride, rider);
-        }
-        x.drive(ride, kilometres, minutes);
-        return ride;
-    }
-
-    private static int finished(Wheelpay x, int driver, int kilometres, int minutes, int... riders) {
-        int ride = driven(x, driver, kilometres, minutes, riders);
-        x.finish(ride);
-        return ride;
-    }
-
-    private static int settled(Wheelpay x, int ride, int rider, int percentage, boolean isByDriver) {
-        x.dispute(ride, rider);
-        return x.settle(ride, rider, percentage, isByDriver);
-    }
-
-    /** A finished ride without riders or minutes, which counts for bonuses and brings nothing else. */
-    private static void emptyRides(Wheelpay x, int driver, int count) {
-        for (int i = 0; i < count; i++) {
-            x.finish(x.start(driver));
-        }
     }
 
     // ---- rides
@@ -113,25 +74,25 @@ public final class PromisesTest {
 
     private static void promise2SetRates() {
         Wheelpay x = new Wheelpay();
-        driven(x, 0, 10, 10, 3);
+        Given.driven(x, 0, 10, 10, 3);
         Check.due("2: before", () -> x.charge(0, 3), 1200);
         x.setRates(7, 3);
         Check.due("2: earlier stretches stay", () -> x.charge(0, 3), 1200);
         Check.due("2: later stretch", () -> x.drive(0, 10, 5), 85);
         for (int wrong : new int[] {-1, 1001, LOW, HIGH}) {
-            Check.refused("2: " + rates(wrong, 0), () -> setRates(x, wrong, 0), ARGUMENT);
-            Check.refused("2: " + rates(0, wrong), () -> setRates(x, 0, wrong), ARGUMENT);
+            Check.refused("2: " + rates(wrong, 0), () -> Calls.setRates(x, wrong, 0), ARGUMENT);
+            Check.refused("2: " + rates(0, wrong), () -> Calls.setRates(x, 0, wrong), ARGUMENT);
         }
         Check.due("2: refused calls change nothing", () -> x.drive(0, 10, 5), 85);
-        Check.due("2: " + rates(0, 0), () -> setRates(x, 0, 0), "set");
+        Check.due("2: " + rates(0, 0), () -> Calls.setRates(x, 0, 0), "set");
         Check.due("2: for nothing", () -> x.drive(0, 100, 120), 0);
-        Check.due("2: " + rates(1000, 1000), () -> setRates(x, 1000, 1000), "set");
+        Check.due("2: " + rates(1000, 1000), () -> Calls.setRates(x, 1000, 1000), "set");
         Check.due("2: dearest", () -> x.drive(0, 100, 120), 220000);
     }
 
     private static void promise3Start() {
         Wheelpay x = new Wheelpay();
-        for (int wrong : NO_DRIVERS) {
+        for (int wrong : Given.noDrivers()) {
             Check.refused("3: start(" + wrong + ")", () -> x.start(wrong), OUT);
         }
         Check.due("3: start(4)", () -> x.start(4), 0);
@@ -142,7 +103,7 @@ public final class PromisesTest {
         Check.refused("3: the other still is under way", () -> x.start(0), STATE);
         x.finish(1);
         x.finish(2);
-        emptyRides(x, 1, 36);
+        Given.emptyRides(x, 1, 36);
         Check.due("3: ride 39", () -> x.start(2), 39);
         Check.refused("3: 40 rides, driver free", () -> x.start(3), STATE);
         Check.refused("3: 40 rides, no such driver", () -> x.start(5), OUT);
@@ -155,10 +116,10 @@ public final class PromisesTest {
         Wheelpay x = new Wheelpay();
         Check.refused("4: no ride yet", () -> x.book(0, 0), OUT);
         x.start(0);
-        for (int wrong : NO_RIDES) {
+        for (int wrong : Given.noRides()) {
             Check.refused("4: book(" + wrong + ", 0)", () -> x.book(wrong, 0), OUT);
         }
-        for (int wrong : NO_RIDERS) {
+        for (int wrong : Given.noRiders()) {
             Check.refused("4: book(0, " + wrong + ")", () -> x.book(0, wrong), OUT);
         }
         Check.due("4: book(0, 0)", () -> x.book(0, 0), 3);
@@ -180,10 +141,10 @@ public final class PromisesTest {
     private static void promise5Cancel() {
         Wheelpay x = new Wheelpay();
         x.start(0);
-        for (int wrong : NO_RIDES) {
+        for (int wrong : Given.noRides()) {
             Check.refused("5: cancel(" + wrong + ", 0)", () -> x.cancel(wrong, 0), OUT);
         }
-        for (int wrong : NO_RIDERS) {
+        for (int wrong : Given.noRiders()) {
             Check.refused("5: cancel(0, " + wrong + ")", () -> x.cancel(0, wrong), OUT);
         }
         Check.refused("5: not booked", () -> x.cancel(0, 2), STATE);
@@ -213,10 +174,10 @@ public final class PromisesTest {
     private static void promise6Board() {
         Wheelpay x = new Wheelpay();
         x.start(0);
-        for (int wrong : NO_RIDES) {
+        for (int wrong : Given.noRides()) {
             Check.refused("6: board(" + wrong + ", 0)", () -> x.board(wrong, 0), OUT);
         }
-        for (int wrong : NO_RIDERS) {
+        for (int wrong : Given.noRiders()) {
             Check.refused("6: board(0, " + wrong + ")", () -> x.board(0, wrong), OUT);
         }
         Check.due("6: board(0, 0)", () -> x.board(0, 0), 1);
@@ -242,10 +203,10 @@ public final class PromisesTest {
     private static void promise7Leave() {
         Wheelpay x = new Wheelpay();
         x.start(0);
-        for (int wrong : NO_RIDES) {
+        for (int wrong : Given.noRides()) {
             Check.refused("7: leave(" + wrong + ", 0)", () -> x.leave(wrong, 0), OUT);
         }
-        for (int wrong : NO_RIDERS) {
+        for (int wrong : Given.noRiders()) {
             Check.refused("7: leave(0, " + wrong + ")", () -> x.leave(0, wrong), OUT);
         }
         Check.refused("7: not aboard", () -> x.leave(0, 6), STATE);
@@ -272,7 +233,7 @@ public final class PromisesTest {
     private static void promise8Drive() {
         Wheelpay x = new Wheelpay();
         x.start(0);
-        for (int wrong : NO_RIDES) {
+        for (int wrong : Given.noRides()) {
             Check.refused("8: drive(" + wrong + ", 1, 1)", () -> x.drive(wrong, 1, 1), OUT);
             Check.refused("8: ride goes first", () -> x.drive(wrong, -1, 0), OUT);
         }
@@ -296,7 +257,7 @@ public final class PromisesTest {
         Check.refused("8: finished", () -> x.drive(0, 1, 1), STATE);
         Check.refused("8: finished, argument goes first", () -> x.drive(0, 101, 1), ARGUMENT);
         Wheelpay y = new Wheelpay();
-        driven(y, 0, 1, 7);
+        Given.driven(y, 0, 1, 7);
         y.board(0, 0);
         y.setRates(0, 0);
         Check.due("8: for nothing", () -> y.drive(0, 100, 120), 0);
@@ -337,7 +298,7 @@ public final class PromisesTest {
     private static void promise9Finish() {
         Wheelpay x = new Wheelpay();
         x.start(0);
-        for (int wrong : NO_RIDES) {
+        for (int wrong : Given.noRides()) {
             Check.refused("9: finish(" + wrong + ")", () -> x.finish(wrong), OUT);
         }
         x.book(0, 0);
@@ -361,7 +322,7 @@ public final class PromisesTest {
     private static void promise10Aboard() {
         Wheelpay x = new Wheelpay();
         x.start(0);
-        for (int wrong : NO_RIDES) {
+        for (int wrong : Given.noRides()) {
             Check.refused("10: aboard(" + wrong + ")", () -> x.aboard(wrong), OUT);
         }
         Check.due("10: nobody", () -> x.aboard(0), 0);
@@ -383,10 +344,10 @@ public final class PromisesTest {
     private static void promise11Charge() {
         Wheelpay x = new Wheelpay();
         x.start(0);
-        for (int wrong : NO_RIDES) {
+        for (int wrong : Given.noRides()) {
             Check.refused("11: charge(" + wrong + ", 0)", () -> x.charge(wrong, 0), OUT);
         }
-        for (int wrong : NO_RIDERS) {
+        for (int wrong : Given.noRiders()) {
             Check.refused("11: charge(0, " + wrong + ")", () -> x.charge(0, wrong), OUT);
         }
         x.board(0, 0);
@@ -396,40 +357,40 @@ public final class PromisesTest {
         x.book(0, 0);
         x.finish(0);
         Check.due("11: fees included", () -> x.charge(0, 0), 700);
-        settled(x, 0, 0, 50, true);
+        Given.settled(x, 0, 0, 50, true);
         Check.due("11: refunds not taken off", () -> x.charge(0, 0), 700);
         Check.due("11: nobody else", () -> x.charge(0, 1), 0);
     }
 
     private static void promise12IsVoid() {
         Wheelpay x = new Wheelpay();
-        driven(x, 0, 10, 1, 0, 1);
-        for (int wrong : NO_RIDES) {
+        Given.driven(x, 0, 10, 1, 0, 1);
+        for (int wrong : Given.noRides()) {
             Check.refused("12: isVoid(" + wrong + ")", () -> x.isVoid(wrong), OUT);
         }
         Check.due("12: under way", () -> x.isVoid(0), false);
         x.finish(0);
         Check.due("12: finished", () -> x.isVoid(0), false);
-        settled(x, 0, 0, 100, true);
+        Given.settled(x, 0, 0, 100, true);
         Check.due("12: one of two refunded", () -> x.isVoid(0), false);
         x.dispute(0, 1);
         Check.due("12: the other only disputed", () -> x.isVoid(0), false);
         x.settle(0, 1, 100, true);
         Check.due("12: both refunded", () -> x.isVoid(0), true);
-        finished(x, 0, 10, 1, 0);
-        settled(x, 1, 0, 100, false);
+        Given.finished(x, 0, 10, 1, 0);
+        Given.settled(x, 1, 0, 100, false);
         Check.due("12: not the driver's fault", () -> x.isVoid(1), false);
-        finished(x, 0, 10, 1, 0);
-        settled(x, 2, 0, 99, true);
+        Given.finished(x, 0, 10, 1, 0);
+        Given.settled(x, 2, 0, 99, true);
         Check.due("12: not all", () -> x.isVoid(2), false);
-        emptyRides(x, 0, 1);
+        Given.emptyRides(x, 0, 1);
         Check.due("12: nobody was charged", () -> x.isVoid(3), false);
-        driven(x, 0, 10, 1, 8);
+        Given.driven(x, 0, 10, 1, 8);
         x.book(4, 9);
         x.finish(4);
-        settled(x, 4, 8, 100, true);
+        Given.settled(x, 4, 8, 100, true);
         Check.due("12: a fee is a charge", () -> x.isVoid(4), false);
-        settled(x, 4, 9, 100, true);
+        Given.settled(x, 4, 9, 100, true);
         Check.due("12: the fee too", () -> x.isVoid(4), true);
         x.start(0);
         Check.due("12: nobody charged, under way", () -> x.isVoid(5), false);
@@ -439,11 +400,11 @@ public final class PromisesTest {
 
     private static void promise13Dispute() {
         Wheelpay x = new Wheelpay();
-        driven(x, 0, 10, 1, 0, 9);
-        for (int wrong : NO_RIDES) {
+        Given.driven(x, 0, 10, 1, 0, 9);
+        for (int wrong : Given.noRides()) {
             Check.refused("13: dispute(" + wrong + ", 0)", () -> x.dispute(wrong, 0), OUT);
         }
-        for (int wrong : NO_RIDERS) {
+        for (int wrong : Given.noRiders()) {
             Check.refused("13: dispute(0, " + wrong + ")", () -> x.dispute(0, wrong), OUT);
         }
         Check.refused("13: under way", () -> x.dispute(0, 0), STATE);
@@ -465,12 +426,12 @@ public final class PromisesTest {
     private static void promise14Settle() {
         Wheelpay x = new Wheelpay();
         x.setRates(1, 1);
-        driven(x, 0, 98, 1, 0);
-        for (int wrong : NO_RIDES) {
+        Given.driven(x, 0, 98, 1, 0);
+        for (int wrong : Given.noRides()) {
             Check.refused("14: settle(" + wrong + ", 0, 1, true)", () -> x.settle(wrong, 0, 1, true), OUT);
             Check.refused("14: ride goes first", () -> x.settle(wrong, 0, -1, true), OUT);
         }
-        for (int wrong : NO_RIDERS) {
+        for (int wrong : Given.noRiders()) {
             Check.refused("14: settle(0, " + wrong + ", 1, true)", () -> x.settle(0, wrong, 1, true), OUT);
             Check.refused("14: rider goes first", () -> x.settle(0, wrong, 101, true), OUT);
         }
@@ -488,7 +449,7 @@ public final class PromisesTest {
         Check.refused("14: settled, percentage -1", () -> x.settle(0, 0, -1, true), ARGUMENT);
         int[][] due = {{0, 0}, {1, 0}, {2, 1}, {99, 98}, {100, 99}};
         for (int[] pair : due) {
-            int ride = finished(x, 0, 98, 1, 0);
+            int ride = Given.finished(x, 0, 98, 1, 0);
             x.dispute(ride, 0);
             Check.due("14: of 99 at " + pair[0], () -> x.settle(ride, 0, pair[0], false), pair[1]);
             Check.refused("14: settled with " + pair[0], () -> x.settle(ride, 0, pair[0], false), STATE);
@@ -497,8 +458,8 @@ public final class PromisesTest {
 
     private static void promise15OpenDisputes() {
         Wheelpay x = new Wheelpay();
-        finished(x, 0, 10, 1, 0, 1, 2);
-        finished(x, 1, 10, 1, 0);
+        Given.finished(x, 0, 10, 1, 0, 1, 2);
+        Given.finished(x, 1, 10, 1, 0);
         x.dispute(0, 0);
         x.dispute(0, 2);
         Check.due("15: two", x::openDisputes, 2);
@@ -518,18 +479,18 @@ public final class PromisesTest {
     private static void promise16CloseWeek() {
         Wheelpay x = new Wheelpay();
         Check.due("16: nothing to pay", x::closeWeek, 0);
-        finished(x, 0, 50, 1, 0);
-        driven(x, 4, 10, 60);
+        Given.finished(x, 0, 50, 1, 0);
+        Given.driven(x, 4, 10, 60);
         Check.refused("16: under way", x::closeWeek, STATE);
         Check.due("16: refused call closes nothing", x::week, 1);
         Check.due("16: and pays nothing", () -> x.paid(0), 0);
         x.finish(1);
         Check.due("16: all drivers together", x::closeWeek, 4016 + 1500);
         Check.due("16: next week", x::week, 2);
-        settled(x, 0, 0, 100, true);
+        Given.settled(x, 0, 0, 100, true);
         Check.due("16: below 0 is not paid", x::closeWeek, 0);
         Check.due("16: stays below 0", () -> x.balance(0), -4016);
-        finished(x, 0, 60, 1, 0);
+        Given.finished(x, 0, 60, 1, 0);
         Check.due("16: what exceeds the debt", x::closeWeek, 4816 - 4016);
         for (int i = 4; i < 20; i++) {
             x.closeWeek();
@@ -537,7 +498,7 @@ public final class PromisesTest {
         Check.due("16: 20 are closed", x::week, 20);
         Check.refused("16: no more", x::closeWeek, STATE);
         Check.due("16: week 20 stays", x::week, 20);
-        finished(x, 0, 50, 1, 0);
+        Given.finished(x, 0, 50, 1, 0);
         Check.due("16: rides in week 20", () -> x.earnings(0, 20), 4016);
         Check.due("16: never closed", () -> x.balance(0), 0);
     }
@@ -548,7 +509,7 @@ public final class PromisesTest {
         Check.refused("16: ride 0 alone is under way", x::closeWeek, STATE);
         x.finish(0);
         Check.due("16: it is finished", x::closeWeek, 0);
-        emptyRides(x, 0, 3);
+        Given.emptyRides(x, 0, 3);
         x.start(1);
         Check.refused("16: the newest ride is under way", x::closeWeek, STATE);
         x.finish(4);
@@ -566,7 +527,7 @@ public final class PromisesTest {
 
     /** Wrong drivers and weeks of a purse in week 1. */
     private static void checkDriverAndWeek(String name, Wheelpay x) {
-        for (int wrong : NO_DRIVERS) {
+        for (int wrong : Given.noDrivers()) {
             Check.refused(name + "(" + wrong + ", 0)", () -> byWeek(name, x, wrong, 0), OUT);
             Check.refused(name + ": driver goes first", () -> byWeek(name, x, wrong, -1), OUT);
         }
@@ -592,24 +553,24 @@ public final class PromisesTest {
     private static void promise18Earnings() {
         Wheelpay x = new Wheelpay();
         x.setRates(1, 1);
-        int ride = driven(x, 0, 8, 1, 0);
+        int ride = Given.driven(x, 0, 8, 1, 0);
         Check.due("18: under way", () -> x.earnings(0, 0), 0);
         x.finish(ride);
         Check.due("18: a fifth of 9 is 1", () -> x.earnings(0, 0), 8);
-        finished(x, 0, 12, 6, 0, 1);
+        Given.finished(x, 0, 12, 6, 0, 1);
         Check.due("18: the fifth for each rider", () -> x.earnings(0, 0), 8 + 8 + 8);
-        finished(x, 1, 98, 1, 0);
+        Given.finished(x, 1, 98, 1, 0);
         Check.due("18: another driver", () -> x.earnings(1, 0), 80);
-        settled(x, 2, 0, 50, false);
+        Given.settled(x, 2, 0, 50, false);
         Check.due("18: not by the driver", () -> x.earnings(1, 0), 80);
         x.closeWeek();
         checkDriverAndWeek("18: earnings", x);
-        finished(x, 1, 98, 1, 0);
+        Given.finished(x, 1, 98, 1, 0);
         Check.due("18: of this week", () -> x.earnings(1, 1), 80);
         Check.due("18: of that week", () -> x.earnings(1, 0), 80);
-        settled(x, 3, 0, 50, true);
+        Given.settled(x, 3, 0, 50, true);
         Check.due("18: 99 less 49 by the driver", () -> x.earnings(1, 1), 40);
-        settled(x, 0, 0, 100, true);
+        Given.settled(x, 0, 0, 100, true);
         Check.due("18: a closed week, as it is now", () -> x.earnings(0, 0), 16);
         x.start(0);
         x.book(4, 3);
@@ -619,26 +580,26 @@ public final class PromisesTest {
 
     private static void promise19TopUp() {
         Wheelpay x = new Wheelpay();
-        driven(x, 0, 0, 1);
+        Given.driven(x, 0, 0, 1);
         Check.due("19: under way", () -> x.topUp(0, 0), 0);
         x.finish(0);
         Check.due("19: 25 by minute", () -> x.topUp(0, 0), 25);
-        finished(x, 0, 1, 59, 0);
+        Given.finished(x, 0, 1, 59, 0);
         Check.due("19: less earnings of 1024", () -> x.topUp(0, 0), 1500 - 1024);
-        finished(x, 0, 10, 2, 0);
+        Given.finished(x, 0, 10, 2, 0);
         Check.due("19: not below 0", () -> x.topUp(0, 0), 0);
         x.closeWeek();
         checkDriverAndWeek("19: topUp", x);
-        settled(x, 2, 0, 100, true);
+        Given.settled(x, 2, 0, 100, true);
         Check.due("19: without the void ride", () -> x.topUp(0, 0), 1500 - 1024);
-        settled(x, 1, 0, 99, true);
+        Given.settled(x, 1, 0, 99, true);
         Check.due("19: an almost void ride counts", () -> x.topUp(0, 0), 1500 - 11);
-        finished(x, 3, 0, 120, 5);
+        Given.finished(x, 3, 0, 120, 5);
         Check.due("19: of this week", () -> x.topUp(3, 1), 3000 - 1920);
         Check.due("19: not of that week", () -> x.topUp(3, 0), 0);
         x.setRates(0, 25);
-        finished(x, 2, 0, 120, 5);
-        settled(x, 4, 5, 0, true);
+        Given.finished(x, 2, 0, 120, 5);
+        Given.settled(x, 4, 5, 0, true);
         Check.due("19: settled with nothing", () -> x.topUp(2, 1), 600);
     }
 
@@ -646,7 +607,7 @@ public final class PromisesTest {
         Wheelpay x = new Wheelpay();
         int[] due = {0, 0, 1000, 1000, 1000, 3000, 3000, 3000, 6000, 6000};
         for (int count = 1; count <= 10; count++) {
-            int ride = driven(x, 0, 1, 1, 0);
+            int ride = Given.driven(x, 0, 1, 1, 0);
             int before = count == 1 ? 0 : due[count - 2];
             Check.due("20: under way", () -> x.bonus(0, 0), before);
             x.finish(ride);
@@ -655,78 +616,78 @@ public final class PromisesTest {
         Check.due("20: another driver", () -> x.bonus(1, 0), 0);
         x.closeWeek();
         checkDriverAndWeek("20: bonus", x);
-        settled(x, 0, 0, 100, true);
+        Given.settled(x, 0, 0, 100, true);
         Check.due("20: a void ride of ten", () -> x.bonus(0, 0), 6000);
-        settled(x, 1, 0, 100, true);
+        Given.settled(x, 1, 0, 100, true);
         Check.due("20: two void rides of ten", () -> x.bonus(0, 0), 3000);
-        settled(x, 2, 0, 100, false);
-        settled(x, 3, 0, 99, true);
-        settled(x, 4, 0, 100, true);
-        settled(x, 5, 0, 100, true);
+        Given.settled(x, 2, 0, 100, false);
+        Given.settled(x, 3, 0, 99, true);
+        Given.settled(x, 4, 0, 100, true);
+        Given.settled(x, 5, 0, 100, true);
         Check.due("20: six count", () -> x.bonus(0, 0), 3000);
-        settled(x, 6, 0, 100, true);
+        Given.settled(x, 6, 0, 100, true);
         Check.due("20: five count", () -> x.bonus(0, 0), 1000);
-        settled(x, 7, 0, 100, true);
-        settled(x, 8, 0, 100, true);
+        Given.settled(x, 7, 0, 100, true);
+        Given.settled(x, 8, 0, 100, true);
         Check.due("20: three count", () -> x.bonus(0, 0), 1000);
-        settled(x, 9, 0, 100, true);
+        Given.settled(x, 9, 0, 100, true);
         Check.due("20: two count", () -> x.bonus(0, 0), 0);
-        emptyRides(x, 0, 3);
+        Given.emptyRides(x, 0, 3);
         Check.due("20: rides without riders", () -> x.bonus(0, 1), 1000);
     }
 
     private static void promise21Pay() {
         Wheelpay x = new Wheelpay();
-        finished(x, 0, 1, 100, 0);
-        emptyRides(x, 0, 2);
+        Given.finished(x, 0, 1, 100, 0);
+        Given.emptyRides(x, 0, 2);
         Check.due("21: earnings", () -> x.earnings(0, 0), 1680);
         Check.due("21: top-up", () -> x.topUp(0, 0), 820);
         Check.due("21: together", () -> x.pay(0, 0), 1680 + 820 + 1000);
         Check.due("21: another driver", () -> x.pay(1, 0), 0);
         x.closeWeek();
         checkDriverAndWeek("21: pay", x);
-        settled(x, 0, 0, 100, true);
+        Given.settled(x, 0, 0, 100, true);
         Check.due("21: as it is now", () -> x.pay(0, 0), 0);
-        finished(x, 0, 10, 1, 0);
+        Given.finished(x, 0, 10, 1, 0);
         Check.due("21: of this week", () -> x.pay(0, 1), 816);
     }
 
     private static void promise22Balance() {
         Wheelpay x = new Wheelpay();
-        for (int wrong : NO_DRIVERS) {
+        for (int wrong : Given.noDrivers()) {
             Check.refused("22: balance(" + wrong + ")", () -> x.balance(wrong), OUT);
         }
-        finished(x, 4, 10, 1, 0, 1);
+        Given.finished(x, 4, 10, 1, 0, 1);
         Check.due("22: not closed yet", () -> x.balance(4), 0);
         x.closeWeek();
         Check.due("22: paid", () -> x.balance(4), 0);
-        settled(x, 0, 0, 50, true);
+        Given.settled(x, 0, 0, 50, true);
         Check.due("22: a refund of 255 of 510", () -> x.balance(4), 408 + 204 - 816);
-        finished(x, 4, 10, 1, 0);
+        Given.finished(x, 4, 10, 1, 0);
         Check.due("22: this week does not count", () -> x.balance(4), -204);
         x.closeWeek();
         Check.due("22: paid again", () -> x.balance(4), 0);
         Check.due("22: another driver", () -> x.balance(3), 0);
         Wheelpay y = new Wheelpay();
-        finished(y, 0, 10, 1, 0);
+        Given.finished(y, 0, 10, 1, 0);
         y.closeWeek();
-        settled(y, 0, 0, 100, false);
+        Given.settled(y, 0, 0, 100, false);
         Check.due("22: not the driver's fault", () -> y.balance(0), 0);
     }
 
     private static void promise23Paid() {
         Wheelpay x = new Wheelpay();
-        for (int wrong : NO_DRIVERS) {
+        for (int wrong : Given.noDrivers()) {
             Check.refused("23: paid(" + wrong + ")", () -> x.paid(wrong), OUT);
         }
-        finished(x, 4, 10, 1, 0);
+        Given.finished(x, 4, 10, 1, 0);
         Check.due("23: not closed yet", () -> x.paid(4), 0);
         x.closeWeek();
         Check.due("23: one week", () -> x.paid(4), 816);
-        finished(x, 4, 20, 1, 0);
+        Given.finished(x, 4, 20, 1, 0);
         x.closeWeek();
         Check.due("23: two weeks", () -> x.paid(4), 816 + 1616);
-        settled(x, 0, 0, 100, true);
+        Given.settled(x, 0, 0, 100, true);
         x.closeWeek();
         Check.due("23: never taken back", () -> x.paid(4), 816 + 1616);
         Check.due("23: another driver", () -> x.paid(0), 0);
@@ -734,20 +695,20 @@ public final class PromisesTest {
 
     private static void promise24Spent() {
         Wheelpay x = new Wheelpay();
-        for (int wrong : NO_RIDERS) {
+        for (int wrong : Given.noRiders()) {
             Check.refused("24: spent(" + wrong + ")", () -> x.spent(wrong), OUT);
         }
-        driven(x, 0, 10, 1, 9);
+        Given.driven(x, 0, 10, 1, 9);
         Check.due("24: under way", () -> x.spent(9), 0);
         x.finish(0);
         Check.due("24: finished", () -> x.spent(9), 1020);
         x.closeWeek();
-        finished(x, 1, 5, 1, 9, 0);
+        Given.finished(x, 1, 5, 1, 9, 0);
         Check.due("24: all rides of all weeks", () -> x.spent(9), 1020 + 260);
         x.dispute(0, 9);
         Check.due("24: only disputed", () -> x.spent(9), 1280);
         x.settle(0, 9, 10, true);
-        settled(x, 1, 9, 50, false);
+        Given.settled(x, 1, 9, 50, false);
         Check.due("24: less refunds", () -> x.spent(9), 1280 - 102 - 130);
         Check.due("24: another rider", () -> x.spent(0), 260);
         Check.due("24: nobody", () -> x.spent(1), 0);
@@ -755,7 +716,7 @@ public final class PromisesTest {
 
     private static void promise25House() {
         Wheelpay x = new Wheelpay();
-        driven(x, 0, 10, 1, 0);
+        Given.driven(x, 0, 10, 1, 0);
         Check.due("25: under way", x::house, 0);
         x.finish(0);
         Check.due("25: the present week too", x::house, 1020 - 816);
@@ -765,12 +726,12 @@ public final class PromisesTest {
         Check.due("25: only disputed", x::house, 204);
         x.settle(0, 0, 100, false);
         Check.due("25: a refund of the house", x::house, -816);
-        finished(x, 1, 10, 1, 0);
-        settled(x, 1, 0, 100, true);
+        Given.finished(x, 1, 10, 1, 0);
+        Given.settled(x, 1, 0, 100, true);
         Check.due("25: a refund of the driver", x::house, -816);
-        emptyRides(x, 4, 3);
+        Given.emptyRides(x, 4, 3);
         Check.due("25: less the bonus", x::house, -1816);
-        finished(x, 2, 0, 10);
+        Given.finished(x, 2, 0, 10);
         Check.due("25: less the top-up", x::house, -2066);
         x.closeWeek();
         x.closeWeek();
@@ -779,33 +740,33 @@ public final class PromisesTest {
 
     private static void promise26AverageCharge() {
         Wheelpay x = new Wheelpay();
-        for (int wrong : NO_RIDERS) {
+        for (int wrong : Given.noRiders()) {
             Check.refused("26: averageCharge(" + wrong + ")", () -> x.averageCharge(wrong), OUT);
         }
         Check.refused("26: no rides", () -> x.averageCharge(0), STATE);
         x.setRates(1, 1);
-        driven(x, 0, 0, 1, 0);
+        Given.driven(x, 0, 0, 1, 0);
         Check.refused("26: under way", () -> x.averageCharge(0), STATE);
         x.finish(0);
         Check.due("26: one", () -> x.averageCharge(0), 1.0f);
         Check.refused("26: another rider", () -> x.averageCharge(1), STATE);
-        finished(x, 0, 3, 1, 0);
+        Given.finished(x, 0, 3, 1, 0);
         Check.due("26: a half", () -> x.averageCharge(0), 2.5f);
-        finished(x, 0, 4, 1, 0);
+        Given.finished(x, 0, 4, 1, 0);
         Check.due("26: thirds", () -> x.averageCharge(0), 10.0f / 3.0f);
-        finished(x, 0, 4, 1, 1);
+        Given.finished(x, 0, 4, 1, 1);
         x.setRates(0, 0);
-        finished(x, 0, 4, 1, 0);
+        Given.finished(x, 0, 4, 1, 0);
         Check.due("26: a ride for nothing does not count", () -> x.averageCharge(0), 10.0f / 3.0f);
-        settled(x, 0, 0, 100, true);
-        settled(x, 1, 0, 50, false);
+        Given.settled(x, 0, 0, 100, true);
+        Given.settled(x, 1, 0, 50, false);
         Check.due("26: refunds not taken off", () -> x.averageCharge(0), 10.0f / 3.0f);
-        finished(x, 0, 4, 1, 2);
+        Given.finished(x, 0, 4, 1, 2);
         Check.refused("26: aboard for nothing", () -> x.averageCharge(2), STATE);
         // 16777217 is the least sum that a float does not hold.
         Wheelpay y = new Wheelpay();
         y.setRates(1000, 1000);
-        driven(y, 0, 100, 120, 0);
+        Given.driven(y, 0, 100, 120, 0);
         for (int i = 1; i < 76; i++) {
             y.drive(0, 100, 120);
         }
@@ -851,7 +812,7 @@ public final class PromisesTest {
         Wheelpay x = new Wheelpay();
         Wheelpay y = new Wheelpay();
         x.setRates(0, 0);
-        finished(x, 0, 1, 1, 0);
+        Given.finished(x, 0, 1, 1, 0);
         x.closeWeek();
         Check.due("another object's week", y::week, 0);
         Check.due("another object's rides", () -> y.start(0), 0);
